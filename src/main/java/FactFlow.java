@@ -63,18 +63,22 @@ public final class FactFlow {
     }
 
     public boolean reached(int i) {
+        solution.find(program);
         return comesTo(i);
     }
 
     public int bits(int i, int v) {
+        solution.find(program);
         return isVariable(v) && comesTo(i) ? solution.states[i].facts[v].bits : BAD;
     }
 
     public int rest(int i, int v) {
+        solution.find(program);
         return isVariable(v) && comesTo(i) ? solution.states[i].facts[v].rest : 0;
     }
 
     public int signs(int i, int v) {
+        solution.find(program);
         return isVariable(v) && comesTo(i) ? solution.states[i].facts[v].signs : 0;
     }
 
@@ -125,12 +129,9 @@ public final class FactFlow {
         return k >= 0 && k < MOST_OUTPUTS && k < machine.printed ? machine.prints[k] : 0;
     }
 
+    // Once the solution has been found.
     private boolean comesTo(int i) {
-        if (!program.has(i)) {
-            return false;
-        }
-        solution.find(program);
-        return !solution.states[i].none;
+        return program.has(i) && !solution.states[i].none;
     }
 
     private static boolean isVariable(int v) {

@@ -195,6 +195,7 @@ public final class MachineTest {
         calculate(5, -7, -2, 3);
         calculate(5, MIN, -1, MIN);
         calculate(5, MAX, MIN, 0);
+        calculate(5, MAX, 1, MAX);
         FactFlow x = new FactFlow();
         x.add(0, 0, 0, 9);
         x.add(2, 0, 0, 0);

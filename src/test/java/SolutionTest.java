@@ -39,6 +39,9 @@ public final class SolutionTest {
         x.add(9, 0, 0, 0);
         Due.fact(x, 0, 1, 2, 0, Z | P);
         Due.fact(x, 0, 0, 32, 0, Z);
+        // Nothing of an earlier program's facts is left.
+        x.put(1, 11, 0, 0, 0);
+        Due.fact(x, 0, 1, 32, 0, Z);
     }
 
     private static void wrongPlaces() {
@@ -200,6 +203,7 @@ public final class SolutionTest {
         signsOf(2, M | Z, Z, M | Z);
         signsOf(2, M | P, Z, M | P);
         signsOf(2, ALL, Z, ALL);
+        signsOf(2, Z, Z | P, Z | P);
     }
 
     private static void signsOfDifferences() {
@@ -332,6 +336,7 @@ public final class SolutionTest {
         result(5, just(7), just(-2), 32, -3, M);
         result(5, just(-7), just(-2), 32, 3, P);
         result(5, just(1), just(2), 32, 0, Z);
+        result(5, just(9), just(1), 32, 9, P);
         result(5, just(MIN), just(-1), 32, MIN, M);
         result(5, just(MIN), just(MIN), 32, 1, P);
         result(5, or(4, 8), just(2), 0, 0, Z | P);
@@ -443,6 +448,11 @@ public final class SolutionTest {
         Due.fact(x, 3, 0, 2, 0, ALL);
         Due.fact(x, 4, 2, 2, 0, ALL);
         Due.fact(x, 6, 3, 0, 0, M | P);
+        // Nothing goes on behind STOP.
+        x.put(5, 11, 0, 0, 0);
+        Due.fact(x, 2, 0, 32, 0, Z);
+        Due.fact(x, 5, 2, 32, 12, P);
+        Due.is("behind STOP", x.reached(6), false);
         // An odd number stays odd when 2 is added again and again; it wraps to MINUS and is never ZERO.
         FactFlow y = new FactFlow();
         y.add(0, 0, 0, 1);
