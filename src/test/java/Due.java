@@ -2,8 +2,14 @@
 final class Due {
     private static int seen = 0;
     private static int wrong = 0;
+    private static String sentence = "";
 
     private Due() {
+    }
+
+    /** The sentence of the document that the answers below are due by; told with each wrong one. */
+    static void by(String words) {
+        sentence = " (" + words + ")";
     }
 
     static void is(String what, long got, long due) {
@@ -12,7 +18,7 @@ final class Due {
             wrong++;
             // A broken rule can spoil thousands of answers; the first ones tell enough.
             if (wrong <= 30) {
-                System.out.println(what + " answered " + got + ", due is " + due);
+                System.out.println(what + " answered " + got + ", due is " + due + sentence);
             }
         }
     }

@@ -52,7 +52,8 @@ public final class FaceTest {
         }
         Due.is("methods " + found, found.equals(FACE), true);
         for (Method m : FactFlow.class.getDeclaredMethods()) {
-            Due.is("private " + m.getName(), Modifier.isPrivate(m.getModifiers()) && names.contains(m.getName()), false);
+            boolean hidden = Modifier.isPrivate(m.getModifiers());
+            Due.is("private " + m.getName(), hidden && names.contains(m.getName()), false);
         }
     }
 
