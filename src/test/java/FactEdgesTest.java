@@ -53,17 +53,10 @@ public final class FactEdgesTest {
         leastOfLoops();
         farWaysBack();
         signsThatGrowInAllVariables();
+        allVariablesChangeAtOnce();
         eachCallFindsTheFacts();
         factsFollowTheProgram();
         Due.end();
-    }
-
-    private static FactFlow skips(int length) {
-        FactFlow x = new FactFlow();
-        for (int i = 0; i < length; i++) {
-            x.add(12, 0, 0, 0);
-        }
-        return x;
     }
 
     private static int signOf(int x) {
@@ -95,7 +88,7 @@ public final class FactEdgesTest {
     private static void reachedOfNoInstruction() {
         Due.by("Promise 7: Whether an instruction is reached; false when there is none");
         for (int length : new int[] {0, 1, 2, 23, 24}) {
-            FactFlow x = skips(length);
+            FactFlow x = Maker.skips(length);
             for (int i : new int[] {MIN, -2, -1, length, length + 1, 24, 25, MAX}) {
                 Due.is("reached(" + i + ") of " + length, x.reached(i), false);
             }
@@ -636,14 +629,14 @@ public final class FactEdgesTest {
     private static void comesOfGotoAndStop() {
         Due.by("Terms: for 9 to the target alone; for 11 nothing");
         for (int target = 0; target <= 24; target++) {
-            FactFlow x = skips(4);
+            FactFlow x = Maker.skips(4);
             x.put(0, 9, 0, 0, target);
             x.put(3, 11, 0, 0, 0);
             for (int i = 1; i < 4; i++) {
                 Due.is("reached(" + i + ") by " + target, x.reached(i), target > 0 && i >= target);
             }
         }
-        FactFlow y = skips(24);
+        FactFlow y = Maker.skips(24);
         for (int i = 23; i >= 0; i--) {
             y.put(i, 11, 0, 0, 0);
             Due.is("reached the STOP", y.reached(i), true);
@@ -678,7 +671,7 @@ public final class FactEdgesTest {
             Due.is("reached(3)", x.reached(3), true);
             Due.fact(x, 3, 1, operation == 7 ? 32 : 0, 0, operation == 7 ? Z : operation == 8 ? M : ALL);
         }
-        FactFlow y = skips(24);
+        FactFlow y = Maker.skips(24);
         y.put(0, 9, 0, 0, 24);
         for (int i = 0; i <= 24; i++) {
             Due.is("reached(" + i + ")", y.reached(i), i == 0);
@@ -692,14 +685,14 @@ public final class FactEdgesTest {
     private static void firstTells0() {
         Due.by("Terms: the first one's tells 0 of all variables, and each one's tells all that comes to it");
         for (int length : new int[] {1, 24}) {
-            FactFlow x = skips(length);
+            FactFlow x = Maker.skips(length);
             for (int v = 0; v < 4; v++) {
                 Due.fact(x, 0, v, 32, 0, Z);
                 Due.fact(x, length - 1, v, 32, 0, Z);
             }
         }
         // Even when all that comes back to it is another number.
-        FactFlow y = skips(24);
+        FactFlow y = Maker.skips(24);
         y.put(22, 0, 1, 0, 65536);
         y.put(23, 9, 0, 0, 0);
         Due.fact(y, 0, 1, 16, 0, Z | P);
@@ -721,7 +714,7 @@ public final class FactEdgesTest {
     private static void leastOfLoops() {
         Due.by("Terms: the least ones (that tell fewest ints); REACHED when its state is not NONE");
         // A loop that nothing leads into would uphold itself, but is not reached.
-        FactFlow x = skips(5);
+        FactFlow x = Maker.skips(5);
         x.put(0, 9, 0, 0, 4);
         x.put(3, 9, 0, 0, 1);
         for (int i = 0; i < 5; i++) {
@@ -784,6 +777,41 @@ public final class FactEdgesTest {
         x.add(9, 0, 0, 12);
         for (int v = 0; v < 4; v++) {
             Due.fact(x, 12, v, 0, 0, ALL);
+        }
+    }
+
+    private static void setAll(FactFlow x, int number) {
+        for (int v = 0; v < 4; v++) {
+            x.add(0, v, 0, number);
+        }
+    }
+
+    private static void allVariablesChangeAtOnce() {
+        Due.by("Terms: To join states is to join all their facts; each one's tells all that comes to it");
+        // To 19 come 16 from 18, then 48 from 10 by a way that goes back once, then -16 from 5 by one that does twice.
+        FactFlow x = new FactFlow();
+        x.add(9, 0, 0, 12);
+        setAll(x, -16);
+        x.add(9, 0, 0, 19);
+        setAll(x, 48);
+        x.add(9, 0, 0, 19);
+        x.add(9, 0, 0, 1);
+        x.add(6, 3, 0, 0);
+        x.add(7, 3, 0, 6);
+        x.add(8, 3, 0, 11);
+        setAll(x, 16);
+        x.add(12, 0, 0, 0);
+        x.add(12, 0, 0, 0);
+        for (int v = 0; v < 4; v++) {
+            // -16 brings nothing but another sign: the bits agree.
+            Due.fact(x, 19, v, 5, 16, M | P);
+            Due.fact(x, 20, v, 5, 16, M | P);
+        }
+        x.put(14, 12, 0, 0, 0);
+        for (int v = 0; v < 4; v++) {
+            // 48 brings nothing but fewer bits: the sign agrees.
+            Due.fact(x, 19, v, 5, 16, P);
+            Due.fact(x, 20, v, 5, 16, P);
         }
     }
 

@@ -1,6 +1,15 @@
-/** Makes variables of which just some numbers, or just some signs, are possible. */
+/** Makes programs of SKIPs, and variables of which just some numbers, or just some signs, are possible. */
 final class Maker {
     private Maker() {
+    }
+
+    /** A new object with a program of so many SKIPs (as many as it takes). */
+    static FactFlow skips(int length) {
+        FactFlow x = new FactFlow();
+        for (int i = 0; i < length; i++) {
+            x.add(12, 0, 0, 0);
+        }
+        return x;
     }
 
     /**

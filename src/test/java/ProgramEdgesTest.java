@@ -37,14 +37,6 @@ public final class ProgramEdgesTest {
         Due.end();
     }
 
-    private static FactFlow skips(int length) {
-        FactFlow x = new FactFlow();
-        for (int i = 0; i < length; i++) {
-            x.add(12, 0, 0, 0);
-        }
-        return x;
-    }
-
     private static boolean uses(int operation, char what) {
         return USED[operation].indexOf(what) >= 0;
     }
@@ -79,7 +71,7 @@ public final class ProgramEdgesTest {
 
     private static void programIsUpTo24() {
         Due.by("Terms: A PROGRAM is up to 24 INSTRUCTIONS; Promise 2: FULL when there are 24");
-        FactFlow x = skips(22);
+        FactFlow x = Maker.skips(22);
         Due.is("add with 22", x.add(12, 0, 0, 0), 22);
         Due.is("length()", x.length(), 23);
         Due.is("add with 23", x.add(12, 0, 0, 0), 23);
@@ -92,7 +84,7 @@ public final class ProgramEdgesTest {
 
     private static void fullChangesNothing() {
         Due.by("Promise 2: FULL when there are 24");
-        FactFlow x = skips(23);
+        FactFlow x = Maker.skips(23);
         x.add(10, 2, 0, 0);
         Due.is("add", x.add(0, 3, 0, 5), FULL);
         Due.code(x, 23, 10, 2, 0, 0);
@@ -106,7 +98,7 @@ public final class ProgramEdgesTest {
 
     private static void badBeforeFull() {
         Due.by("Promise 2: BAD when .. not one of those told; FULL when there are 24");
-        FactFlow x = skips(24);
+        FactFlow x = Maker.skips(24);
         Due.is("add, good", x.add(12, 0, 0, 0), FULL);
         Due.is("add, wrong operation", x.add(13, 0, 0, 0), BAD);
         Due.is("add, wrong a", x.add(10, 4, 0, 0), BAD);
@@ -142,7 +134,7 @@ public final class ProgramEdgesTest {
         FactFlow x = new FactFlow();
         Due.is("add(" + what, x.add(operation, a, b, c), good ? 0 : BAD);
         Due.is("length()", x.length(), good ? 1 : 0);
-        FactFlow y = skips(1);
+        FactFlow y = Maker.skips(1);
         Due.is("put(0, " + what, y.put(0, operation, a, b, c), good);
         Due.is("code(0, 0)", y.code(0, 0), good ? operation : 12);
     }
@@ -197,7 +189,7 @@ public final class ProgramEdgesTest {
         Due.code(x, 0, 9, 0, 0, 24);
         Due.is("add", x.add(9, 0, 0, 3), 1);
         Due.code(x, 1, 9, 0, 0, 3);
-        FactFlow y = skips(23);
+        FactFlow y = Maker.skips(23);
         Due.is("add", y.add(8, 3, 0, 24), 23);
         Due.code(y, 23, 8, 3, 0, 24);
     }
@@ -253,7 +245,7 @@ public final class ProgramEdgesTest {
     private static void putNeedsAnInstruction() {
         Due.by("Promise 3: false when there is none (number i)");
         for (int length : new int[] {0, 1, 2, 23, 24}) {
-            FactFlow x = skips(length);
+            FactFlow x = Maker.skips(length);
             for (int i : new int[] {MIN, -1, length, length + 1, 25, MAX}) {
                 Due.is("put(" + i + ", ..) of " + length, x.put(i, 10, 1, 0, 0), false);
             }
@@ -272,7 +264,7 @@ public final class ProgramEdgesTest {
 
     private static void putIntoAFullProgram() {
         Due.by("Promise 3: Another instruction in the place of number i");
-        FactFlow x = skips(24);
+        FactFlow x = Maker.skips(24);
         for (int i = 0; i < 24; i++) {
             Due.is("put(" + i + ", ..)", x.put(i, 0, i % 4, 0, i), true);
         }
@@ -284,7 +276,7 @@ public final class ProgramEdgesTest {
 
     private static void putRefusesWhatAddRefuses() {
         Due.by("Promise 3: false when .. what is given would be BAD");
-        FactFlow x = skips(2);
+        FactFlow x = Maker.skips(2);
         Due.is("put, wrong operation", x.put(1, 13, 0, 0, 0), false);
         Due.is("put, wrong a", x.put(1, 0, 4, 0, 0), false);
         Due.is("put, wrong b", x.put(1, 1, 0, 4, 0), false);
@@ -330,7 +322,7 @@ public final class ProgramEdgesTest {
 
     private static void clearOfAFullProgram() {
         Due.by("Promise 4: No program any more");
-        FactFlow x = skips(24);
+        FactFlow x = Maker.skips(24);
         Due.is("reached(23)", x.reached(23), true);
         x.clear();
         Due.is("length()", x.length(), 0);
@@ -346,7 +338,7 @@ public final class ProgramEdgesTest {
 
     private static void clearKeepsInputs() {
         Due.by("Promise 4: (Inputs .. stay.)");
-        FactFlow x = skips(1);
+        FactFlow x = Maker.skips(1);
         for (int k = 0; k < 15; k++) {
             x.input(20 + k);
         }
@@ -389,13 +381,13 @@ public final class ProgramEdgesTest {
     private static void lengthAtItsEnds() {
         Due.by("Promise 5: How many instructions there are");
         for (int length : new int[] {0, 1, 2, 22, 23, 24}) {
-            FactFlow x = skips(length);
+            FactFlow x = Maker.skips(length);
             Due.is("length()", x.length(), length);
             x.rewrite();
             x.run(5);
             Due.is("length()", x.length(), length);
         }
-        FactFlow x = skips(30);
+        FactFlow x = Maker.skips(30);
         Due.is("length()", x.length(), 24);
         x.clear();
         Due.is("length()", x.length(), 0);
@@ -434,7 +426,7 @@ public final class ProgramEdgesTest {
 
     private static void worksForAll512Calls() {
         Due.by("What it is: An object is used for at most 512 calls");
-        FactFlow x = skips(24);
+        FactFlow x = Maker.skips(24);
         for (int call = 24; call < 508; call++) {
             x.put(call % 24, 0, call % 4, 0, call);
         }

@@ -18,6 +18,8 @@ public final class RandomTest {
             RandomTest test = new RandomTest(seed);
             if (seed % 3 == 0) {
                 test.anyCalls();
+            } else if (seed % 10 == 1) {
+                test.oneByOne();
             } else {
                 test.wholePrograms();
             }
@@ -100,6 +102,78 @@ public final class RandomTest {
                         model.inputs.clear();
                     }
                 }
+            }
+        }
+    }
+
+    /** As many calls as an object is used for, of all kinds, and a few with arguments that are far off. */
+    private void oneByOne() {
+        for (int call = 0; call < 512; call++) {
+            int kind = any(0, 99);
+            if (kind < 40) {
+                oneChange(any(0, 99));
+            } else if (kind < 70) {
+                oneFact(mostly(-1, 24), mostly(-1, 4));
+            } else {
+                oneAnswer(any(0, 6));
+            }
+        }
+    }
+
+    private void oneChange(int kind) {
+        if (kind < 50) {
+            add();
+        } else if (kind < 75) {
+            put();
+        } else if (kind < 90) {
+            int v = number();
+            Due.is("input", x.input(v), model.input(v));
+        } else if (kind < 97) {
+            Due.is("rewrite", x.rewrite(), model.rewrite());
+        } else if (kind < 98) {
+            x.dry();
+            model.inputs.clear();
+        } else {
+            x.clear();
+            model.program.clear();
+        }
+    }
+
+    private void oneFact(int i, int v) {
+        Model.Fact[][] states = model.solution();
+        boolean reached = i >= 0 && i < states.length && states[i] != null;
+        Model.Fact due = reached && v >= 0 && v <= 3 ? states[i][v] : null;
+        String where = "(" + i + ", " + v + ")";
+        switch (any(0, 3)) {
+            case 0 -> Due.is("reached(" + i + ")", x.reached(i), reached);
+            case 1 -> Due.is("bits" + where, x.bits(i, v), due == null ? -1 : due.k());
+            case 2 -> Due.is("rest" + where, x.rest(i, v), due == null ? 0 : (int) due.r());
+            default -> Due.is("signs" + where, x.signs(i, v), due == null ? 0 : due.mask());
+        }
+    }
+
+    private void oneAnswer(int kind) {
+        switch (kind) {
+            case 0 -> {
+                int steps = any(0, 9) == 0 ? number() : any(0, any(5, 2000));
+                Due.is("run(" + steps + ")", x.run(steps), model.run(steps));
+            }
+            case 1 -> Due.is("steps", x.steps(), model.steps);
+            case 2 -> Due.is("next", x.next(), model.next);
+            case 3 -> {
+                int v = mostly(-1, 4);
+                Due.is("variable(" + v + ")", x.variable(v), v >= 0 && v <= 3 ? model.variables[v] : 0);
+            }
+            case 4 -> Due.is("outputs", x.outputs(), model.printed.size());
+            case 5 -> {
+                int k = mostly(-1, any(0, 41));
+                boolean told = k >= 0 && k < 40 && k < model.printed.size();
+                Due.is("output(" + k + ")", x.output(k), told ? model.printed.get(k) : 0);
+            }
+            default -> {
+                int i = mostly(-1, 24), part = mostly(-1, 4);
+                boolean there = i >= 0 && i < model.program.size() && part >= 0 && part <= 3;
+                Due.is("code(" + i + ", " + part + ")", x.code(i, part), there ? model.program.get(i)[part] : -1);
             }
         }
     }

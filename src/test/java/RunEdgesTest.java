@@ -39,14 +39,6 @@ public final class RunEdgesTest {
         Due.end();
     }
 
-    private static FactFlow skips(int length) {
-        FactFlow x = new FactFlow();
-        for (int i = 0; i < length; i++) {
-            x.add(12, 0, 0, 0);
-        }
-        return x;
-    }
-
     /** Reads and prints without an end: three steps for each output. */
     private static FactFlow reader() {
         FactFlow x = new FactFlow();
@@ -234,7 +226,7 @@ public final class RunEdgesTest {
     }
 
     private static void jump(int operation, int number, boolean jumps) {
-        FactFlow x = skips(5);
+        FactFlow x = Maker.skips(5);
         x.put(0, 0, 3, 0, number);
         x.put(1, operation, 3, 0, 4);
         Due.is("run(2)", x.run(2), 0);
@@ -266,7 +258,7 @@ public final class RunEdgesTest {
         Due.by("Terms: Going to an instruction that is not there (behind the last one) ends the run");
         for (int operation : new int[] {7, 8, 9}) {
             for (int target : new int[] {0, 1, 3, 4, 5, 23, 24}) {
-                FactFlow x = skips(4);
+                FactFlow x = Maker.skips(4);
                 x.put(0, 0, 0, 0, operation == 8 ? -1 : 0);
                 x.put(1, operation, 0, 0, target);
                 boolean there = target < 4;
@@ -276,14 +268,14 @@ public final class RunEdgesTest {
         }
         // In a full program only 24 is not there.
         for (int target : new int[] {22, 23, 24}) {
-            FactFlow x = skips(24);
+            FactFlow x = Maker.skips(24);
             x.put(0, 9, 0, 0, target);
             Due.is("run, target " + target, x.run(1), target < 24 ? 0 : 1);
             told(x, 1, target < 24 ? target : BAD, 0);
             x.run(2000);
             Due.is("steps, target " + target, x.steps(), 1 + 24 - target);
         }
-        FactFlow y = skips(24);
+        FactFlow y = Maker.skips(24);
         y.put(23, 9, 0, 0, 0);
         Due.is("run", y.run(24), 0);
         told(y, 24, 0, 0);
@@ -386,7 +378,7 @@ public final class RunEdgesTest {
             FactFlow x = new FactFlow();
             Due.is("run(" + steps + ")", x.run(steps), 1);
             told(x, 0, BAD, 0);
-            FactFlow y = skips(1);
+            FactFlow y = Maker.skips(1);
             Due.is("run(" + steps + ")", y.run(steps), steps == 0 ? 0 : 1);
         }
         for (int steps : new int[] {-1, 2001}) {
@@ -436,7 +428,7 @@ public final class RunEdgesTest {
 
     private static void endsByStop() {
         Due.by("Promise 14: 1 when it ended by STOP");
-        FactFlow x = skips(3);
+        FactFlow x = Maker.skips(3);
         x.put(1, 11, 0, 0, 0);
         Due.is("run(1)", x.run(1), 0);
         told(x, 1, 1, 0);
@@ -455,7 +447,7 @@ public final class RunEdgesTest {
     private static void endsBehindTheLastOne() {
         Due.by("Promise 14: 1 when it ended .. behind the last one");
         for (int length : new int[] {1, 2, 23, 24}) {
-            FactFlow x = skips(length);
+            FactFlow x = Maker.skips(length);
             Due.is("run of one less", x.run(length - 1), 0);
             told(x, length - 1, length - 1, 0);
             Due.is("run of as many", x.run(length), 1);
@@ -468,7 +460,7 @@ public final class RunEdgesTest {
     private static void endsByFault() {
         Due.by("Promise 14: 2 by FAULT (that step counts)");
         for (int before : new int[] {0, 1, 22, 23}) {
-            FactFlow x = skips(before);
+            FactFlow x = Maker.skips(before);
             x.add(5, 0, 0, 1);
             Due.is("run of one less", x.run(before), 0);
             told(x, before, before, 0);
@@ -539,7 +531,7 @@ public final class RunEdgesTest {
 
     private static void nextInEachCase() {
         Due.by("Promise 16: would be next; one that faulted; BAD when it ended otherwise, or there was none");
-        FactFlow x = skips(3);
+        FactFlow x = Maker.skips(3);
         Due.is("next() without a run", x.next(), BAD);
         x.run(0);
         Due.is("next() at the beginning", x.next(), 0);
