@@ -6,7 +6,8 @@ import java.util.regex.Pattern;
 
 /** The calls in the example of README.md answer what stands behind them there. */
 public final class ReadmeTest {
-    private static final Pattern CALL = Pattern.compile("x\\.(\\w+)\\(([-0-9, ]*)\\);(?:\\s*// (-?\\d+|true|false)\\b)?.*");
+    private static final Pattern CALL =
+            Pattern.compile("x\\.(\\w+)\\(([-0-9, ]*)\\);(?:\\s*// (-?\\d+|true|false)\\b)?.*");
 
     public static void main(String[] args) throws Exception {
         String text = Files.readString(Path.of("README.md"));
